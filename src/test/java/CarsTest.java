@@ -129,15 +129,6 @@ public final class CarsTest {
         CHECK.due("length behind clear", x.told(1, 1), 1);
     }
 
-    private static LaneWishes with(int kind, int n, int b, int... wishes) {
-        LaneWishes x = new LaneWishes();
-        x.road(kind, n, b);
-        for (int wish : wishes) {
-            x.car(wish);
-        }
-        return x;
-    }
-
     /** Of each car: its place, how far it goes, whether it is lucky; then who is on each place. */
     private static void stand(String told, LaneWishes x, int[] at, int[] far, int[] on) {
         int in = 0, lucky = 0, all = 0, most = 0, free = 0;
@@ -164,35 +155,35 @@ public final class CarsTest {
     }
 
     private static void straight() {
-        stand("straight", with(0, 5, 0, 3, 3, 3, 3), new int[] {3, 4, 5, NONE}, new int[] {0, 1, 2, NONE},
+        stand("straight", Made.road(0, 5, 0, 3, 3, 3, 3), new int[] {3, 4, 5, NONE}, new int[] {0, 1, 2, NONE},
             new int[] {NONE, NONE, 1, 2, 3});
-        stand("straight, all in", with(0, 4, 0, 2, 1, 1, 1), new int[] {2, 1, 3, 4}, new int[] {0, 0, 2, 3},
+        stand("straight, all in", Made.road(0, 4, 0, 2, 1, 1, 1), new int[] {2, 1, 3, 4}, new int[] {0, 0, 2, 3},
             new int[] {2, 1, 3, 4});
-        stand("one place", with(0, 1, 0, 1), new int[] {1}, new int[] {0}, new int[] {1});
+        stand("one place", Made.road(0, 1, 0, 1), new int[] {1}, new int[] {0}, new int[] {1});
     }
 
     private static void round() {
-        stand("round", with(1, 5, 0, 4, 4, 4, 5), new int[] {4, 5, 1, 2}, new int[] {0, 1, 2, 2},
+        stand("round", Made.road(1, 5, 0, 4, 4, 4, 5), new int[] {4, 5, 1, 2}, new int[] {0, 1, 2, 2},
             new int[] {3, 4, NONE, 1, 2});
-        stand("round, to the place ahead", with(1, 3, 0, 3, 1, 3), new int[] {3, 1, 2}, new int[] {0, 0, 2},
+        stand("round, to the place ahead", Made.road(1, 3, 0, 3, 1, 3), new int[] {3, 1, 2}, new int[] {0, 0, 2},
             new int[] {2, 3, 1});
     }
 
     private static void backing() {
-        stand("backing by 0", with(2, 5, 0, 3, 3), new int[] {3, 4}, new int[] {0, 1},
+        stand("backing by 0", Made.road(2, 5, 0, 3, 3), new int[] {3, 4}, new int[] {0, 1},
             new int[] {NONE, NONE, 1, 2, NONE});
-        stand("backing by 1", with(2, 5, 1, 3, 3, 3, 3), new int[] {3, 2, 4, 5}, new int[] {0, 1, 1, 2},
+        stand("backing by 1", Made.road(2, 5, 1, 3, 3, 3, 3), new int[] {3, 2, 4, 5}, new int[] {0, 1, 1, 2},
             new int[] {NONE, 2, 1, 3, 4});
-        stand("backing by 9, not beyond 1", with(2, 4, 9, 2, 2, 2, 2), new int[] {2, 1, 3, 4}, new int[] {0, 1, 1, 2},
+        stand("backing by 9, not beyond 1", Made.road(2, 4, 9, 2, 2, 2, 2), new int[] {2, 1, 3, 4}, new int[] {0, 1, 1, 2},
             new int[] {2, 1, 3, 4});
-        stand("backing to the end", with(2, 3, 9, 3, 3, 3), new int[] {3, 2, 1}, new int[] {0, 1, 2},
+        stand("backing to the end", Made.road(2, 3, 9, 3, 3, 3), new int[] {3, 2, 1}, new int[] {0, 1, 2},
             new int[] {3, 2, 1});
-        stand("backing, then none", with(2, 3, 1, 3, 3, 3), new int[] {3, 2, NONE}, new int[] {0, 1, NONE},
+        stand("backing, then none", Made.road(2, 3, 1, 3, 3, 3), new int[] {3, 2, NONE}, new int[] {0, 1, NONE},
             new int[] {NONE, 2, 1});
     }
 
     private static void longCars() {
-        LaneWishes x = with(0, 6, 0, 2, 2, 1);
+        LaneWishes x = Made.road(0, 6, 0, 2, 2, 1);
         x.length(1, 3);
         stand("long", x, new int[] {2, 5, 1}, new int[] {0, 3, 0}, new int[] {3, 1, 1, 1, 2, NONE});
         x.length(2, 2);
@@ -204,7 +195,7 @@ public final class CarsTest {
         stand("the first free place counts", x, new int[] {2, 5, NONE}, new int[] {0, 3, NONE},
             new int[] {NONE, 1, 1, 1, 2, NONE});
 
-        LaneWishes r = with(1, 4, 0, 4, 4);
+        LaneWishes r = Made.road(1, 4, 0, 4, 4);
         r.length(1, 2);
         r.length(2, 2);
         stand("long round", r, new int[] {4, 2}, new int[] {0, 2}, new int[] {1, 2, 2, 1});
@@ -212,31 +203,31 @@ public final class CarsTest {
         stand("long round, itself in the way", r, new int[] {4, NONE}, new int[] {0, NONE}, new int[] {1, NONE, NONE, 1});
         r.length(1, 4);
         stand("all round", r, new int[] {4, NONE}, new int[] {0, NONE}, new int[] {1, 1, 1, 1});
-        LaneWishes s = with(1, 3, 0, 2);
+        LaneWishes s = Made.road(1, 3, 0, 2);
         s.length(1, 4);
         stand("longer than a round road", s, new int[] {NONE}, new int[] {NONE}, new int[] {NONE, NONE, NONE});
         s.length(1, 3);
         stand("as long as a round road", s, new int[] {2}, new int[] {0}, new int[] {1, 1, 1});
 
-        LaneWishes b = with(2, 5, 2, 3, 3, 5);
+        LaneWishes b = Made.road(2, 5, 2, 3, 3, 5);
         b.length(2, 2);
         stand("a long one that backs has no room", b, new int[] {3, NONE, 5}, new int[] {0, NONE, 0},
             new int[] {NONE, NONE, 1, NONE, 3});
     }
 
     private static void ways() {
-        CHECK.due("ways of no cars", with(0, 10, 0).ways(), 1);
-        CHECK.due("ways straight", with(0, 3, 0, 3, 3, 3).ways(), 16);
-        CHECK.due("ways round", with(1, 3, 0, 1, 1, 1).ways(), 27);
-        CHECK.due("ways backing all", with(2, 2, 1, 1, 1).ways(), 4);
-        CHECK.due("ways of 100000", with(0, 10, 0, 1, 1, 1, 1, 1).ways(), 6 * 14641);
-        CHECK.due("ways of 100000 round", with(1, 10, 0, 1, 1, 1, 1, 1).ways(), 100000);
-        CHECK.due("ways of 1000000", with(0, 10, 0, 1, 1, 1, 1, 1, 1).ways(), NOT);
-        CHECK.due("ways of 9^5", with(1, 9, 0, 1, 1, 1, 1, 1).ways(), 59049);
-        CHECK.due("ways of 7^6", with(1, 7, 0, 1, 1, 1, 1, 1, 1).ways(), NOT);
-        CHECK.due("ways of 6^6", with(1, 6, 0, 1, 1, 1, 1, 1, 1).ways(), 46656);
-        CHECK.due("ways of 10^10", with(1, 10, 0, 1, 1, 1, 1, 1, 1, 1, 1, 1, 1).ways(), NOT);
-        LaneWishes x = with(0, 3, 0, 1, 1);
+        CHECK.due("ways of no cars", Made.road(0, 10, 0).ways(), 1);
+        CHECK.due("ways straight", Made.road(0, 3, 0, 3, 3, 3).ways(), 16);
+        CHECK.due("ways round", Made.road(1, 3, 0, 1, 1, 1).ways(), 27);
+        CHECK.due("ways backing all", Made.road(2, 2, 1, 1, 1).ways(), 4);
+        CHECK.due("ways of 100000", Made.road(0, 10, 0, 1, 1, 1, 1, 1).ways(), 6 * 14641);
+        CHECK.due("ways of 100000 round", Made.road(1, 10, 0, 1, 1, 1, 1, 1).ways(), 100000);
+        CHECK.due("ways of 1000000", Made.road(0, 10, 0, 1, 1, 1, 1, 1, 1).ways(), NOT);
+        CHECK.due("ways of 9^5", Made.road(1, 9, 0, 1, 1, 1, 1, 1).ways(), 59049);
+        CHECK.due("ways of 7^6", Made.road(1, 7, 0, 1, 1, 1, 1, 1, 1).ways(), NOT);
+        CHECK.due("ways of 6^6", Made.road(1, 6, 0, 1, 1, 1, 1, 1, 1).ways(), 46656);
+        CHECK.due("ways of 10^10", Made.road(1, 10, 0, 1, 1, 1, 1, 1, 1, 1, 1, 1, 1).ways(), NOT);
+        LaneWishes x = Made.road(0, 3, 0, 1, 1);
         x.length(2, 2);
         // wishes 1 1, 1 2, 3 1, and no other: 2 x leaves two places that are not side by side
         CHECK.due("ways of a long car", x.ways(), 3);

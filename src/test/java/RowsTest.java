@@ -17,12 +17,7 @@ public final class RowsTest {
     }
 
     private static LaneWishes with(int kind, int n, int... wishes) {
-        LaneWishes x = new LaneWishes();
-        x.road(kind, n, 1);
-        for (int wish : wishes) {
-            x.car(wish);
-        }
-        return x;
+        return Made.road(kind, n, 1, wishes);
     }
 
     private static void wishes(String told, LaneWishes x, int... want) {
@@ -187,29 +182,23 @@ public final class RowsTest {
     }
 
     private static void refusals() {
-        LaneWishes round = with(1, 3, 1, 1, 1);
-        LaneWishes backing = with(2, 3, 1, 1, 1);
-        LaneWishes bad = with(0, 3, 3, 3, 3);
         LaneWishes few = with(0, 3, 1, 2);
-        LaneWishes isLong = with(0, 3, 1, 1, 1);
-        isLong.length(3, 2);
-        LaneWishes longGood = with(0, 3, 1, 2);
-        longGood.length(2, 2);
-        LaneWishes[] no = {round, backing, bad, isLong, longGood};
-        for (LaneWishes x : no) {
+        for (LaneWishes x : Made.notPlainGood()) {
+            int worst = x.told(1, 0);
             CHECK.due("rank", x.rank(), NOT);
             CHECK.due("next", x.next(), NOT);
             CHECK.due("like", x.like(), NOT);
             CHECK.due("riseRank", x.riseRank(), NOT);
             CHECK.due("cuts", x.cuts(), NOT);
-            CHECK.due("mend", x.mend(), x == bad ? 2 : NOT);
+            CHECK.due("mend asks for PLAIN alone", x.mend(), worst == 3 ? 2 : NOT);
         }
         CHECK.due("cuts of few", few.cuts(), NOT);
         CHECK.due("mend of few", few.mend(), NOT);
         CHECK.due("rank of few", few.rank(), 1);
         CHECK.due("riseRank of few", few.riseRank(), 1);
         CHECK.due("riseRank of falling ones", with(0, 3, 2, 1).riseRank(), NOT);
-        for (LaneWishes x : new LaneWishes[] {round, backing}) {
+        for (int kind = 1; kind < 3; kind++) {
+            LaneWishes x = with(kind, 3, 1, 1, 1);
             CHECK.due("orders", x.orders(), NOT);
             CHECK.due("unrank", x.unrank(2, 0), NOT);
             CHECK.due("unrank of a wrong number first", x.unrank(2, 99), BAD);

@@ -1,3 +1,5 @@
+import java.util.Arrays;
+
 /** Promises 26 to 33: trees, codes, walks. */
 public final class TreesTest {
     private static final Check CHECK = new Check();
@@ -16,12 +18,7 @@ public final class TreesTest {
     }
 
     private static LaneWishes with(int kind, int n, int... wishes) {
-        LaneWishes x = new LaneWishes();
-        x.road(kind, n, 1);
-        for (int wish : wishes) {
-            x.car(wish);
-        }
-        return x;
+        return Made.road(kind, n, 1, wishes);
     }
 
     private static LaneWishes onSheet(LaneWishes x, int sheet, int lane, int... items) {
@@ -214,13 +211,9 @@ public final class TreesTest {
     }
 
     private static void refusals() {
-        LaneWishes round = with(1, 3, 1, 1, 1);
-        LaneWishes backing = with(2, 3, 1, 1, 1);
-        LaneWishes bad = with(0, 3, 3, 3, 3);
         LaneWishes few = with(0, 3, 1, 2);
-        LaneWishes isLong = with(0, 3, 1, 1, 1);
-        isLong.length(3, 2);
-        LaneWishes[] no = {round, backing, bad, few, isLong};
+        LaneWishes[] no = Arrays.copyOf(Made.notPlainGood(), 6);
+        no[5] = few;
         for (LaneWishes x : no) {
             CHECK.due("node", x.node(1, 0), NOT);
             CHECK.due("node, bad first", x.node(1, 5), BAD);
