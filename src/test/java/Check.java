@@ -14,6 +14,10 @@ final class Check {
         }
     }
 
+    int answers() {
+        return right + wrong;
+    }
+
     void end(String test) {
         System.out.println(test + ": " + right + " answers as due, " + wrong + " not");
         if (wrong != 0 || right == 0) {

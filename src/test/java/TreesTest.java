@@ -21,14 +21,6 @@ public final class TreesTest {
         return Made.road(kind, n, 1, wishes);
     }
 
-    private static LaneWishes onSheet(LaneWishes x, int sheet, int lane, int... items) {
-        x.sheet(sheet, lane, items.length);
-        for (int i = 0; i < items.length; i++) {
-            x.item(sheet, lane, i, items[i]);
-        }
-        return x;
-    }
-
     private static void nodes(String told, LaneWishes x, int what, int... want) {
         for (int c = 1; c <= want.length; c++) {
             CHECK.due(told + ": node(" + c + ", " + what + ")", x.node(c, what), want[c - 1]);
@@ -103,7 +95,7 @@ public final class TreesTest {
     }
 
     private static void decodeRefusals() {
-        LaneWishes x = onSheet(with(0, 4, 2), 1, 1, 0, 4, 4, 5, -1);
+        LaneWishes x = Made.onSheet(with(0, 4, 2), 1, 1, 0, 4, 4, 5, -1);
         CHECK.due("sheet -1", x.decode(-1, 1, 0), BAD);
         CHECK.due("sheet 4", x.decode(4, 1, 0), BAD);
         CHECK.due("lane 3", x.decode(1, 3, 0), BAD);
@@ -131,7 +123,7 @@ public final class TreesTest {
     }
 
     private static void growRefusals() {
-        LaneWishes x = onSheet(with(0, 3, 2), 2, 2, 0, 1, 2, 0, 4, -1, 3, 1, 2, 0, 0);
+        LaneWishes x = Made.onSheet(with(0, 3, 2), 2, 2, 0, 1, 2, 0, 4, -1, 3, 1, 2, 0, 0);
         CHECK.due("sheet -1", x.grow(-1, 2, 0), BAD);
         CHECK.due("sheet 4", x.grow(4, 2, 0), BAD);
         CHECK.due("lane 3", x.grow(2, 3, 0), BAD);
