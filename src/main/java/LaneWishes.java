@@ -904,9 +904,6 @@ public final class LaneWishes {
             int room = 0;
             for (int place = n; place >= 1; place--) {
                 room += 1 - wishers[place];
-                if (room < 0) {
-                    return 0;
-                }
                 for (int some = open; some >= 0; some--) {
                     ways[some] = some > room ? 0 : wishHere(some, open);
                 }
@@ -1083,7 +1080,7 @@ public final class LaneWishes {
         boolean wishesOfParents(int[] wish) {
             seen[1] = 0;
             int last = 1;
-            for (int i = 1; i <= last; i++) {
+            for (int i = 1; i <= n && i <= last; i++) {
                 for (int car = 1; car <= n; car++) {
                     if (parent[car] == seen[i] && last <= n) {
                         wish[car] = i;

@@ -1,13 +1,15 @@
+import java.util.Arrays;
+
 /**
  * The sentences of the document that name an edge, of 'Terms' 1 and promises 1 to 12: each has a test of its own,
  * with the sentence above it.
  */
 public final class EdgesOfRoadsTest {
+    private static final int BAD = Edges.BAD, NOT = Edges.NOT, FULL = Edges.FULL, NONE = Edges.NONE;
+
     public static void main(String[] args) throws ReflectiveOperationException {
         Edges.runAll(EdgesOfRoadsTest.class);
     }
-
-    private static final int BAD = Edges.BAD, NOT = Edges.NOT, FULL = Edges.FULL, NONE = Edges.NONE;
 
     private static LaneWishes twoCars() {
         return Made.straight(5, 2, 4);
@@ -752,10 +754,21 @@ public final class EdgesOfRoadsTest {
         long[] straight = {1, 3, 16, 125, 1296, 16807};
         for (int n = 1; n <= 6; n++) {
             int[] wishes = new int[n];
-            java.util.Arrays.fill(wishes, n);
+            Arrays.fill(wishes, n);
             Edges.due("straight " + n, Made.straight(n, wishes).ways(), straight[n - 1]);
             Edges.due("round " + n, Made.road(1, n, 0, wishes).ways(), (long) Math.pow(n, n));
             Edges.due("backing all " + n, Made.road(2, n, 9, wishes).ways(), (long) Math.pow(n, n));
         }
+    }
+
+    // asked again, and of other cars, rows of before do not count
+    static void promise12AskedAgain() {
+        LaneWishes x = Made.straight(4, 1, 1, 1, 1);
+        Edges.due("four cars", x.ways(), 125);
+        Edges.due("again", x.ways(), 125);
+        x.undo();
+        Edges.due("three cars", x.ways(), 50);
+        x.clear();
+        Edges.due("no cars", x.ways(), 1);
     }
 }

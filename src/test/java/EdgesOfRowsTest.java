@@ -107,6 +107,13 @@ public final class EdgesOfRowsTest {
         Edges.wishes(x, 3, 1, 3, 1);
     }
 
+    // MEND: the first car alone has the greatest wish
+    static void term2MendOfTheFirstCar() {
+        LaneWishes x = Made.straight(3, 3, 2, 2);
+        Edges.due("mend()", x.mend(), 1);
+        Edges.wishes(x, 1, 2, 2);
+    }
+
     // ---- Promise 13: rows
 
     static void promise13KBelow0() {

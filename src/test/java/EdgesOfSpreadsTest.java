@@ -141,6 +141,18 @@ public final class EdgesOfSpreadsTest {
         }
     }
 
+    // asked again it is the same
+    static void promise34AskedAgain() {
+        LaneWishes x = new LaneWishes();
+        long[] of = {6, 2, 3, 8, 9, 4};
+        for (int time = 0; time < 3; time++) {
+            for (int what = 0; what < 6; what++) {
+                int v = what == 0 || what == 5 ? 0 : 1;
+                Edges.due("spread(" + what + ", 3, " + v + ")", x.spread(what, 3, v), of[what]);
+            }
+        }
+    }
+
     // beyond ints: exactly
     static void promise34BeyondInts() {
         LaneWishes x = new LaneWishes();

@@ -225,6 +225,19 @@ public final class EdgesOfTreesTest {
         Edges.due("one child, all below", chain(10).node(10, 3), 9);
     }
 
+    // asked again, and of another row, the tree of before does not count
+    static void promise26AskedAgain() {
+        LaneWishes x = chain(3);
+        for (int time = 0; time < 2; time++) {
+            Edges.due("3 in the chain: children", x.node(3, 2), 1);
+            Edges.due("3 in the chain: below", x.node(3, 3), 2);
+        }
+        x.unrank(3, 0);
+        Edges.due("3 in the star: children", x.node(3, 2), 0);
+        Edges.due("3 in the star: below", x.node(3, 3), 0);
+        Edges.due("3 in the star: depth", x.node(3, 1), 1);
+    }
+
     // "as which it is seen (2 ..)": the first behind the root, and the last
     static void promise26SeenAsTheSecondAndTheLast() {
         Edges.due("the second", chain(10).node(10, 4), 2);
