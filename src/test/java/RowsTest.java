@@ -8,6 +8,7 @@ public final class RowsTest {
         toldByPlace();
         risingToldByPlace();
         wholeOrders();
+        firstWishesInOrder();
         likeAndOrders();
         rise();
         cuts();
@@ -126,6 +127,23 @@ public final class RowsTest {
                     CHECK.due("next in order", x.next(), r == all - 1 ? NONE : 1);
                 }
             }
+        }
+    }
+
+    /** Spreads are counted by where the last car is at, the book by the endings of a beginning: both must agree. */
+    private static void firstWishesInOrder() {
+        for (int n = 1; n <= 10; n++) {
+            LaneWishes x = with(0, n);
+            long row = 0;
+            for (int v = 1; v <= n; v++) {
+                x.unrank(n, row);
+                CHECK.due("the first row with this first wish", x.told(1, 0), v);
+                CHECK.due("the rest of it wish 1", x.count(1) == n && n > 1 ? x.told(n, 0) : 1, 1);
+                row += x.spread(3, n, v);
+                x.unrank(n, row - 1);
+                CHECK.due("the last row with this first wish", x.told(1, 0), v);
+            }
+            CHECK.due("all rows", row, x.rows(n));
         }
     }
 

@@ -6,6 +6,7 @@ public final class SpreadsTest {
         wrong();
         allTogether();
         byAllRows();
+        byRisingRows();
         longOnes();
         CHECK.end("SpreadsTest");
     }
@@ -71,6 +72,102 @@ public final class SpreadsTest {
                 }
             }
         }
+    }
+
+    /** Of each rising good row there are as many rows as it has orders; on long roads those can be gone through. */
+    private static void byRisingRows() {
+        for (int n = 7; n <= 10; n++) {
+            long[][] found = new long[6][47];
+            addRising(found, n, n, new int[n], 0);
+            addRising(found, n, n - 1, new int[n - 1], 0);
+            long[] lucky = luckyByProduct(n);
+            System.arraycopy(lucky, 0, found[1], 0, lucky.length);
+            LaneWishes x = new LaneWishes();
+            for (int what = 0; what < 6; what++) {
+                for (int v = 0; v <= 46; v++) {
+                    CHECK.due("spread(" + what + ", " + n + ", " + v + ")", x.spread(what, n, v), found[what][v]);
+                }
+            }
+        }
+    }
+
+    private static void addRising(long[][] found, int n, int k, int[] row, int set) {
+        if (set < k) {
+            for (int wish = set == 0 ? 1 : row[set - 1]; wish <= n - k + set + 1; wish++) {
+                row[set] = wish;
+                addRising(found, n, k, row, set + 1);
+            }
+        } else if (k == n) {
+            addWhole(found, row);
+        } else {
+            addWithoutLast(found, row);
+        }
+    }
+
+    private static void addWhole(long[][] found, int[] row) {
+        int n = row.length;
+        int[] wishers = new int[n + 1];
+        int goes = 0;
+        int cuts = 0;
+        for (int i = 0; i < n; i++) {
+            wishers[row[i]]++;
+            goes += i + 1 - row[i];
+            // sorted, i wishes are i or less just where the next is more than i
+            cuts += i > 0 && row[i] == i + 1 ? 1 : 0;
+        }
+        long orders = orders(wishers, n);
+        found[0][goes] += orders;
+        for (int v = 1; v <= n; v++) {
+            found[3][v] += orders * wishers[v] / n;
+        }
+        found[4][wishers[1]] += orders;
+        found[5][cuts] += orders;
+    }
+
+    /** All cars but the last have come in, in whatever order: the last comes to the place that is left, from any ahead. */
+    private static void addWithoutLast(long[][] found, int[] row) {
+        int n = row.length + 1;
+        int[] wishers = new int[n + 1];
+        int place = 1;
+        int left = 0;
+        for (int wish : row) {
+            wishers[wish]++;
+            if (wish > place) {
+                left = place;
+                place++;
+            }
+            place++;
+        }
+        left = left == 0 ? n : left;
+        found[2][left] += orders(wishers, n - 1) * left;
+    }
+
+    private static long orders(int[] wishers, int cars) {
+        long orders = factorial(cars);
+        for (int alike : wishers) {
+            orders /= factorial(alike);
+        }
+        return orders;
+    }
+
+    private static long factorial(int of) {
+        long product = 1;
+        for (int i = 2; i <= of; i++) {
+            product *= i;
+        }
+        return product;
+    }
+
+    /** Known of old: q times all (i + (n - i + 1) q), i from 1 to n - 1, in which q to the v tells those with v lucky cars. */
+    private static long[] luckyByProduct(int n) {
+        long[] product = new long[n + 1];
+        product[1] = 1;
+        for (int i = 1; i < n; i++) {
+            for (int v = n; v >= 1; v--) {
+                product[v] = product[v] * i + product[v - 1] * (n - i + 1);
+            }
+        }
+        return product;
     }
 
     private static void longOnes() {
